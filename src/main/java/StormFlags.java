@@ -482,8 +482,7 @@ public final class StormFlags {
         }
 
         void rewind() {
-            place = 0;
-            skipBlanks();
+            moveTo(0);
         }
 
         boolean isReadUp() {
@@ -527,10 +526,6 @@ public final class StormFlags {
 
         private void moveTo(int next) {
             place = next;
-            skipBlanks();
-        }
-
-        private void skipBlanks() {
             while (place < length && byteAt(place) == ' ') {
                 place++;
             }
@@ -538,7 +533,7 @@ public final class StormFlags {
 
         private int endOfRun(char lowest, char highest) {
             int behind = place;
-            while (behind < length && within(byteAt(behind), lowest, highest)) {
+            while (behind < length && byteAt(behind) >= lowest && byteAt(behind) <= highest) {
                 behind++;
             }
             return behind;

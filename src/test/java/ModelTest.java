@@ -107,7 +107,7 @@ public final class ModelTest {
         try {
             return call.getAsLong();
         } catch (RuntimeException e) {
-            return e.getClass();
+            return Check.named(e);
         }
     }
 

@@ -239,6 +239,8 @@ public final class PromisesTest {
         s.report(2, 0, 9500, 0);
         // At 3, 0: 1000 by 10, by 1 + 144 + 225, by 1 + 16.
         Check.due("three", s.field(3, 0, 0, 2), (10001 * 100 + 9000 * 2 + 9500 * 58) / 160);
+        // At 1, 3: 1000 by 11, by 1 + 196 + 144, by 1 + 4 + 1.
+        Check.due("three elsewhere", s.field(1, 3, 0, 2), (10001 * 90 + 9000 * 2 + 9500 * 166) / 258);
         Check.due("another watch", s.field(3, 0, 1, 2), NONE);
         Check.due("watch -1", s.field(3, 0, -1, 2), NONE);
         Check.due("the watch lowest", s.field(3, 0, LOWEST, 2), NONE);
@@ -311,6 +313,8 @@ public final class PromisesTest {
         Check.dueFault("low<1", 0);
         Check.dueFault("cones low<1", 0);
         Check.dueFault("con low<1", 0);
+        Check.dueFault("bone low<1", 0);
+        Check.dueFault("drun low<1", 0);
         Check.dueFault("Cone low<1", 0);
         Check.dueFault("conelow<1", 0);
         Check.dueFault("cone", 4);
@@ -867,6 +871,19 @@ public final class PromisesTest {
         s.hours(7);
         Check.due("one at sea still", s.count(8), 1);
         Check.due("one lost", s.count(7), 1);
+        s.trip(0, 21, 3);
+        s.hours(1);
+        Check.due("one stayed", s.count(8), 1);
+        StormFlags first = new StormFlags();
+        first.port(0, 0, 0, 0);
+        first.boat(0, 0, 8);
+        first.gale(0, 2, 2, 8);
+        first.trip(0, 1, 5);
+        first.hours(1);
+        Check.due("the first boat is at sea", first.count(8), 1);
+        first.hours(1);
+        Check.due("the first boat is at sea no more", first.count(8), 0);
+        Check.due("the first boat is lost", first.count(7), 1);
         for (int what : new int[] {LOWEST, -1, 9, HIGHEST}) {
             Check.due("count(" + what + ")", s.count(what), NONE);
         }
