@@ -1,5 +1,11 @@
+import java.lang.reflect.InvocationTargetException;
+import java.lang.reflect.Method;
+import java.lang.reflect.Modifier;
 import java.util.ArrayList;
+import java.util.Arrays;
+import java.util.Comparator;
 import java.util.List;
+import java.util.TreeSet;
 
 /** What the tests share: answers that are due, exceptions that are due, and texts on the tape. */
 final class Check {
@@ -8,15 +14,71 @@ final class Check {
         void on(StormFlags s);
     }
 
+    /** A call of which one number is left open. */
+    interface Ask {
+        int on(StormFlags s, int number);
+    }
+
+    static final int NONE = StormFlags.NONE;
+    static final int LOWEST = Integer.MIN_VALUE;
+    static final int HIGHEST = Integer.MAX_VALUE;
+
+    private static String test = "";
     private static int wrong = 0;
 
     private Check() {
     }
 
+    /** Runs every method of a class that looks like a test, so that none can be forgotten, and leaves. */
+    static void all(Class<?> tests) {
+        Method[] methods = tests.getDeclaredMethods();
+        Arrays.sort(methods, Comparator.comparing(Method::getName));
+        int found = 0;
+        for (Method m : methods) {
+            if (isTest(m)) {
+                found++;
+                run(m);
+            }
+        }
+        due("tests in " + tests.getName(), found > 0, true);
+        System.out.println(tests.getName() + ": " + found + " tests");
+        leave();
+    }
+
+    private static boolean isTest(Method m) {
+        return Modifier.isPrivate(m.getModifiers()) && Modifier.isStatic(m.getModifiers()) && !m.isSynthetic()
+                && m.getReturnType() == void.class && m.getParameterCount() == 0;
+    }
+
+    private static void run(Method m) {
+        test = m.getName() + ": ";
+        m.setAccessible(true);
+        try {
+            m.invoke(null);
+        } catch (InvocationTargetException e) {
+            fail("threw " + e.getCause());
+            e.getCause().printStackTrace(System.out);
+        } catch (IllegalAccessException e) {
+            fail("cannot be called");
+        }
+        test = "";
+    }
+
+    private static void fail(String what) {
+        wrong++;
+        System.out.println(test + what);
+    }
+
+    static void leave() {
+        if (wrong > 0) {
+            System.out.println(wrong + " wrong");
+            System.exit(1);
+        }
+    }
+
     static void due(String call, long got, long want) {
         if (got != want) {
-            wrong++;
-            System.out.println(call + " answered " + got + ", due is " + want);
+            fail(call + " answered " + got + ", due is " + want);
         }
     }
 
@@ -27,8 +89,7 @@ final class Check {
     static void dueThrow(String call, StormFlags s, Run run, Class<? extends RuntimeException> want) {
         String got = thrownBy(s, run);
         if (!got.equals(want.getName())) {
-            wrong++;
-            System.out.println(call + " threw " + got + ", due is " + want.getName());
+            fail(call + " threw " + got + ", due is " + want.getName());
         }
     }
 
@@ -52,23 +113,59 @@ final class Check {
         return own ? e.getClass().getName() : e.getClass().getName() + " by " + thrower;
     }
 
-    /** Of two objects made alike one gets the call that throws: later answers must be the same. */
+    /** A number that a call takes: right from lowest to highest, refused next to both and far away. */
+    static void dueRange(String name, Run setup, int lowest, int highest, Ask call, int answer) {
+        for (int right : around(lowest, highest)) {
+            if (lowest <= right && right <= highest) {
+                StormFlags s = new StormFlags();
+                setup.on(s);
+                due(name + " " + right, call.on(s, right), answer);
+            } else {
+                dueThrowAndNoChange(name + " " + right, setup, s -> call.on(s, right), IllegalArgumentException.class);
+            }
+        }
+    }
+
+    /** The number of a thing of which there are so many: right from 0 on, refused at that many and far away. */
+    static void dueIndex(String name, Run setup, int many, Ask call) {
+        for (int index : around(0, many - 1)) {
+            if (0 <= index && index < many) {
+                StormFlags s = new StormFlags();
+                setup.on(s);
+                due(name + " " + index + " is there", thrownBy(s, x -> call.on(x, index)).equals("nothing"), true);
+            } else {
+                dueThrowAndNoChange(name + " " + index, setup, s -> call.on(s, index), IndexOutOfBoundsException.class);
+            }
+        }
+    }
+
+    private static TreeSet<Integer> around(int lowest, int highest) {
+        return new TreeSet<>(Arrays.asList(LOWEST, lowest - 1, lowest, lowest + 1, highest - 1, highest, highest + 1,
+                HIGHEST));
+    }
+
+    /** Of two objects made alike one gets the call that throws: all later answers must be the same. */
     static void dueThrowAndNoChange(String call, Run setup, Run run, Class<? extends RuntimeException> want) {
+        dueNoChange(call, setup, s -> dueThrow(call, s, run, want));
+    }
+
+    /** Of two objects made alike one gets the calls that must do nothing: all later answers must be the same. */
+    static void dueNoChange(String call, Run setup, Run idle) {
         StormFlags plain = new StormFlags();
         StormFlags tried = new StormFlags();
         setup.on(plain);
         setup.on(tried);
-        dueThrow(call, tried, run, want);
+        idle.on(tried);
         dueSame(call + " changed the object", seen(plain), seen(tried));
-        plain.hours(40);
-        tried.hours(40);
+        Offices.later(plain);
+        Offices.later(tried);
         dueSame(call + " changed what came later", seen(plain), seen(tried));
+        dueSame(call + " changed the tape", tapeOf(plain), tapeOf(tried));
     }
 
-    private static void dueSame(String what, List<Long> plain, List<Long> tried) {
+    static void dueSame(String what, List<Long> plain, List<Long> tried) {
         if (!plain.equals(tried)) {
-            wrong++;
-            System.out.println(what + ": " + plain + " against " + tried);
+            fail(what + ": " + plain + " against " + tried);
         }
     }
 
@@ -78,6 +175,7 @@ final class Check {
         for (int what = 0; what <= 8; what++) {
             all.add((long) s.count(what));
         }
+        all.add((long) s.fault());
         int now = s.count(0);
         for (int port = 0; port < Math.min(3, s.count(1)); port++) {
             for (int what = 0; what <= 3; what++) {
@@ -99,6 +197,16 @@ final class Check {
         }
         all.add((long) s.field(3, 4, 0, now + 12));
         all.add((long) s.field(3, 4, now / 8, now + 12));
+        return all;
+    }
+
+    /** How many bytes the tape has, and how they read; it is used up by this. */
+    private static List<Long> tapeOf(StormFlags s) {
+        List<Long> all = new ArrayList<>();
+        all.add((long) s.feed(0x20202020, 0x20202020, 0x20202020, 0x20202020, 0x20202020));
+        all.add(thrownBy(s, StormFlags::rules).equals("nothing") ? 1L : 0L);
+        all.add((long) s.fault());
+        all.add((long) s.count(3));
         return all;
     }
 
@@ -131,14 +239,14 @@ final class Check {
     static void dueRules(String text, int want) {
         StormFlags s = new StormFlags();
         type(s, text);
-        int got = StormFlags.NONE;
+        int got = NONE;
         try {
             got = s.rules();
         } catch (IllegalArgumentException e) {
             System.out.println("'" + text + "' is refused at " + s.fault());
         }
         due("rules() of '" + text + "'", got, want);
-        due("fault() of '" + text + "'", s.fault(), StormFlags.NONE);
+        due("fault() of '" + text + "'", s.fault(), NONE);
         due("count(3) of '" + text + "'", s.count(3), want);
     }
 
@@ -147,12 +255,27 @@ final class Check {
         type(s, text);
         dueThrow("rules() of '" + text + "'", s, StormFlags::rules, IllegalArgumentException.class);
         due("fault() of '" + text + "'", s.fault(), want);
+        due("count(3) of '" + text + "'", s.count(3), 0);
     }
 
-    static void leave() {
-        if (wrong > 0) {
-            System.out.println(wrong + " wrong");
-            System.exit(1);
+    static void dueWarning(StormFlags s, int number, int hour, int coast, int flag, int rule) {
+        int[] want = {hour, coast, flag, rule};
+        for (int what = 0; what < want.length; what++) {
+            due("warning(" + number + ", " + what + ")", s.warning(number, what), want[what]);
+        }
+    }
+
+    static void dueLook(StormFlags s, int boat, int state, int sailed, int stayed, int hour) {
+        int[] want = {state, sailed, stayed, hour};
+        for (int what = 0; what < want.length; what++) {
+            due("look(" + boat + ", " + what + ") at " + s.count(0), s.look(boat, what), want[what]);
+        }
+    }
+
+    static void dueScore(StormFlags s, int port, int warned, int missed, int vain, int came) {
+        int[] want = {warned, missed, vain, came};
+        for (int what = 0; what < want.length; what++) {
+            due("score(" + port + ", " + what + ") at " + s.count(0), s.score(port, what), want[what]);
         }
     }
 }

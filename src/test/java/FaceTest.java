@@ -29,35 +29,31 @@ public final class FaceTest {
     };
 
     public static void main(String[] args) {
-        Class<?> c = StormFlags.class;
-        Check.due("the class is public and final",
-                Modifier.isPublic(c.getModifiers()) && Modifier.isFinal(c.getModifiers()), true);
-        methods(c);
-        constants(c);
-        Constructor<?>[] made = c.getDeclaredConstructors();
-        Check.due("constructors", made.length, 1);
-        Check.due("the constructor is public",
-                Modifier.isPublic(made[0].getModifiers()) && made[0].getParameterCount() == 0, true);
-        for (Class<?> inside : c.getDeclaredClasses()) {
-            Check.due(inside + " is static and not public", Modifier.isStatic(inside.getModifiers())
-                    && !Modifier.isPublic(inside.getModifiers()) && !Modifier.isProtected(inside.getModifiers()), true);
-        }
-        Check.leave();
+        Check.all(FaceTest.class);
     }
 
-    private static void methods(Class<?> c) {
+    /** The public face: "public final class StormFlags". */
+    private static void theClassIsPublicAndFinal() {
+        int modifiers = StormFlags.class.getModifiers();
+        Check.due("public", Modifier.isPublic(modifiers), true);
+        Check.due("final", Modifier.isFinal(modifiers), true);
+    }
+
+    /** The public face: "public StormFlags();" */
+    private static void thereIsOneConstructor() {
+        Constructor<?>[] made = StormFlags.class.getDeclaredConstructors();
+        Check.due("constructors", made.length, 1);
+        Check.due("public", Modifier.isPublic(made[0].getModifiers()), true);
+        Check.due("parameters", made[0].getParameterCount(), 0);
+    }
+
+    /** The public face: each method with what it takes, answers and throws, from "feed" to "count". */
+    private static void theMethodsAreTheDocuments() {
         TreeSet<String> open = new TreeSet<>();
-        TreeSet<String> openNames = new TreeSet<>();
-        for (Method m : c.getDeclaredMethods()) {
+        for (Method m : StormFlags.class.getDeclaredMethods()) {
             if (!Modifier.isPrivate(m.getModifiers())) {
                 open.add(told(m));
-                openNames.add(m.getName());
                 Check.due(m + " is public and not static", m.getModifiers(), Modifier.PUBLIC);
-            }
-        }
-        for (Method m : c.getDeclaredMethods()) {
-            if (Modifier.isPrivate(m.getModifiers())) {
-                Check.due("a private method bears the name of " + m.getName(), openNames.contains(m.getName()), false);
             }
         }
         TreeSet<String> want = new TreeSet<>(Arrays.asList(FACE));
@@ -67,14 +63,37 @@ public final class FaceTest {
         Check.due("the face is the document's", open.equals(want), true);
     }
 
-    private static void constants(Class<?> c) {
-        for (Field f : c.getDeclaredFields()) {
+    /** LANGUAGE.md, rule 1: no private method bears the name of a public one. */
+    private static void noPrivateMethodHasAPublicOnesName() {
+        TreeSet<String> openNames = new TreeSet<>();
+        for (Method m : StormFlags.class.getMethods()) {
+            openNames.add(m.getName());
+        }
+        for (Method m : StormFlags.class.getDeclaredMethods()) {
+            if (Modifier.isPrivate(m.getModifiers())) {
+                Check.due("a private method bears the name of " + m.getName(), openNames.contains(m.getName()), false);
+            }
+        }
+    }
+
+    /** The public face: "public static final int NONE = -1;" */
+    private static void noneIsTheOnlyConstant() {
+        for (Field f : StormFlags.class.getDeclaredFields()) {
             if (!Modifier.isPrivate(f.getModifiers())) {
                 Check.due("the field " + f.getName() + " is NONE", f.getName().equals("NONE"), true);
                 Check.due("NONE's modifiers", f.getModifiers(), Modifier.PUBLIC | Modifier.STATIC | Modifier.FINAL);
             }
         }
         Check.due("NONE", StormFlags.NONE, -1);
+    }
+
+    /** LANGUAGE.md, rule 1: the classes inside are private or package-visible and static. */
+    private static void theClassesInsideAreStatic() {
+        for (Class<?> inside : StormFlags.class.getDeclaredClasses()) {
+            int modifiers = inside.getModifiers();
+            Check.due(inside + " is static", Modifier.isStatic(modifiers), true);
+            Check.due(inside + " is open", Modifier.isPublic(modifiers) || Modifier.isProtected(modifiers), false);
+        }
     }
 
     private static String told(Method m) {

@@ -169,7 +169,8 @@ final class Model {
 
     private static List<Thing> cut(String text) {
         List<Thing> things = new ArrayList<>();
-        java.util.regex.Matcher m = java.util.regex.Pattern.compile("[a-z]+|[0-9]+|[^ ]", java.util.regex.Pattern.DOTALL)
+        java.util.regex.Matcher m = java.util.regex.Pattern
+                .compile("[a-z]+|[0-9]+|[^ ]", java.util.regex.Pattern.DOTALL)
                 .matcher(text);
         while (m.find()) {
             things.add(new Thing(m.start(), m.group()));

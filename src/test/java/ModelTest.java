@@ -5,7 +5,7 @@ import java.util.function.LongSupplier;
 public final class ModelTest {
     private static final int RUNS = 600;
     private static final int CALLS = 512;
-    private static final int[] ODD = {-1, 0, 1, 2, 3, 4, 8, 12, 13, 14, 16, 2000, 2001, Integer.MIN_VALUE, Integer.MAX_VALUE};
+    private static final int[] ODD = {-1, 0, 1, 2, 3, 4, 8, 12, 13, 14, 16, 2000, 2001, Check.LOWEST, Check.HIGHEST};
 
     private final Random random;
     private final String name;
