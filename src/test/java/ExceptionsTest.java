@@ -6,7 +6,7 @@ public final class ExceptionsTest {
         Check.all(ExceptionsTest.class);
     }
 
-    /** Three ports and boats, and as many of all things as there may be; reports and gales are of port 0. */
+    /** A busy office with as many ports, boats and gales as there may be. */
     private static void full(StormFlags s) {
         Offices.busy(s);
         for (int i = s.count(1); i < 12; i++) {
