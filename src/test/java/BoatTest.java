@@ -56,6 +56,27 @@ public final class BoatTest {
         Check.dueRange("strength", Offices::busy, 8, 13, (s, strength) -> s.boat(0, 0, strength), 2);
     }
 
+    /** Section 3: "of a PORT, BOLD (0 to 2), STRENGTH (8 to 13)": as told, at any hour. */
+    private static void aBoatIsAsToldAtAnyHour() {
+        for (int hour : new int[] {10, 18, 802, 1970}) {
+            for (int bold = 0; bold <= 2; bold++) {
+                for (int strength = 8; strength <= 13; strength++) {
+                    StormFlags s = new StormFlags();
+                    s.port(0, 0, 0, 0);
+                    s.port(0, 0, 1, 0);
+                    Offices.hoursTo(s, hour - 1);
+                    Offices.warn(s, "cone coast=1");
+                    s.gale(1, hour + 2, hour + 2, 10);
+                    s.boat(1, bold, strength);
+                    s.trip(0, hour + 1, 5);
+                    s.hours(2);
+                    int state = bold == 0 ? 0 : strength <= 10 ? 3 : 2;
+                    Check.due("bold " + bold + ", strength " + strength + ", at " + hour, s.look(0, 0), state);
+                }
+            }
+        }
+    }
+
     private static void busyWithAThirdBoat(StormFlags s) {
         Offices.busy(s);
         s.boat(2, 0, 8);

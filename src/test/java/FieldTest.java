@@ -167,6 +167,40 @@ public final class FieldTest {
         duePlace(7, 9, twelve);
     }
 
+    /** Terms: "the sum of x of its PORTS by how many it has, rounded down, y likewise": from 1 to 12 of them. */
+    private static void theCoastOfAnyManyPorts() {
+        for (int many = 1; many <= 12; many++) {
+            int[][] ports = new int[many][];
+            int sumX = 0;
+            int sumY = 0;
+            for (int i = 0; i < many; i++) {
+                ports[i] = new int[] {(3 + 5 * i) % 16, (11 + 7 * i) % 16};
+                sumX += ports[i][0];
+                sumY += ports[i][1];
+            }
+            duePlace(sumX / many, sumY / many, ports);
+        }
+    }
+
+    /** Terms: "The place of a COAST: the sum of x of its PORTS": a new PORT moves it, for the WATCHES past too. */
+    private static void aNewPortMovesTheCoast() {
+        StormFlags s = new StormFlags();
+        s.port(0, 0, 0, 0);
+        s.port(15, 0, 1, 0);
+        s.report(0, 0, 10000, 0);
+        s.report(1, 0, 9000, 0);
+        s.hours(8);
+        s.report(0, 1, 9000, 0);
+        s.report(1, 1, 9000, 0);
+        s.port(14, 0, 0, 0);
+        // Now at 7, 0: the weights are 1000 by 50 and 1000 by 65, at 0, 0 they would be 1000 and 4.
+        int before = (10000 * 20 + 9000 * 15) / 35;
+        Check.due("the field", s.field(7, 0, 0, 8), before);
+        Offices.warn(s, "cone coast=0 and fall>" + (before - 9000) + "; drum coast=0 and fall>" + (before - 9001));
+        Check.due("warnings", s.count(4), 1);
+        Check.dueWarning(s, 0, 10, 0, 1, 1);
+    }
+
     /** The place of coast 0 must be x, y: by its FIELD there, which is another one at every place beside it. */
     private static void duePlace(int x, int y, int[][] ports) {
         StormFlags s = new StormFlags();

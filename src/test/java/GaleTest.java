@@ -82,6 +82,31 @@ public final class GaleTest {
         }
     }
 
+    /** Section 3: "at a PORT, from an hour behind NOW to an hour", "a FORCE (8 to 12)": as told, at any hour. */
+    private static void aGaleIsAsToldAtAnyHour() {
+        for (int hour : new int[] {0, 13, 777, 1990}) {
+            StormFlags s = new StormFlags();
+            s.port(0, 0, 0, 0);
+            s.port(0, 0, 0, 0);
+            Offices.hoursTo(s, hour);
+            for (int strength = 9; strength <= 12; strength++) {
+                s.boat(1, 2, strength);
+                s.trip(strength - 9, hour + 1, 9);
+            }
+            s.boat(1, 2, 8);
+            s.trip(4, hour + 6, 1);
+            s.gale(1, hour + 4, hour + 5, 10);
+            s.hours(3);
+            Check.due("lost ahead of it, at " + hour, s.count(7), 0);
+            s.hours(1);
+            Check.due("lost in its first hour, at " + hour, s.count(7), 2);
+            s.hours(2);
+            Check.due("lost behind it, at " + hour, s.count(7), 2);
+            Check.dueScore(s, 0, 0, 0, 0, 0);
+            Check.dueScore(s, 1, 0, 1, 0, 0);
+        }
+    }
+
     /** Section 3: "(not ahead of it, ..; that one too)": a GALE of one hour goes on in it. */
     private static void aGaleMayHaveOneHour() {
         for (int sails = 4; sails <= 6; sails++) {

@@ -63,6 +63,36 @@ public final class OfficeTest {
         }
     }
 
+    /** The office section: "by what is KNOWN at it": also for WATCH w - 1, of which a REPORT may come as late. */
+    private static void ofTheWatchBeforeTooWhatIsKnown() {
+        for (int told = 0; told <= 9; told++) {
+            for (int wire = 0; wire <= 12; wire++) {
+                StormFlags s = Offices.withPort(0);
+                s.port(0, 0, 1, wire);
+                s.hours(told);
+                s.report(1, 0, 10000, 0);
+                Offices.hoursTo(s, 9);
+                s.report(0, 1, 9500, 0);
+                Offices.warn(s, "cone coast=0 and fall>499");
+                Check.due("told at " + told + ", wire " + wire, s.count(4), told + wire <= 10 ? 1 : 0);
+            }
+        }
+    }
+
+    /** The office section: "by what is KNOWN at it": of two REPORTS for WATCH w - 1 the later one, once it is KNOWN. */
+    private static void ofTheWatchBeforeTheReportThatCounts() {
+        for (int wire = 0; wire <= 3; wire++) {
+            StormFlags s = Offices.withPort(0);
+            s.port(0, 0, 1, wire);
+            s.report(1, 0, 10000, 0);
+            s.hours(9);
+            s.report(1, 0, 9600, 0);
+            s.report(0, 1, 9500, 0);
+            Offices.warn(s, "cone coast=0 and fall>499; drum coast=0 and fall>99");
+            Check.due("warnings, wire " + wire, s.count(4), wire <= 1 ? 1 : 2);
+        }
+    }
+
     /** The office section: "by what is KNOWN at it": a REPORT told in the hour of the office comes too late for it. */
     private static void whatIsToldAtTheOfficesHourIsTooLate() {
         StormFlags s = Offices.withPort(0);

@@ -61,6 +61,26 @@ public final class PortTest {
         }
     }
 
+    /** Terms: "a place (x and y, 0 to 15), a COAST (0 to 3), a WIRE (0 to 12 hours)": as told, at any hour. */
+    private static void aPortIsAsToldAtAnyHour() {
+        for (int hour : new int[] {0, 8, 800, 1976}) {
+            StormFlags s = new StormFlags();
+            Offices.hoursTo(s, hour);
+            s.port(0, 0, 1, 0);
+            s.port(9, 4, 2, 5);
+            s.report(0, hour / 8, 9000, 0);
+            s.report(1, hour / 8, 10000, 0);
+            Check.due("its wire at " + hour, s.counts(1, hour / 8, hour + 4), Check.NONE);
+            Check.due("its wire's end at " + hour, s.counts(1, hour / 8, hour + 5), 1);
+            // At 8, 4 the weights are 1000 by 81 and 1000 by 2, at 9, 5 they are 1000 by 107 and 1000 by 2.
+            Check.due("its x at " + hour, s.field(8, 4, hour / 8, hour + 5), (9000 * 12 + 10000 * 500) / 512);
+            Check.due("its y at " + hour, s.field(9, 5, hour / 8, hour + 5), (9000 * 9 + 10000 * 500) / 509);
+            Offices.warn(s, "cone coast=2");
+            Check.due("its coast at " + hour, s.warning(0, 1), 2);
+            Check.due("its flag at " + hour, s.flies(1, s.warning(0, 0) + 5), 1);
+        }
+    }
+
     /** Promise 4: "A PORT: its number.": at any hour, at the last one too. */
     private static void aPortMayComeAtTheLastHour() {
         StormFlags s = new StormFlags();

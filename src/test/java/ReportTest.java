@@ -34,6 +34,23 @@ public final class ReportTest {
                 UnsupportedOperationException.class);
     }
 
+    /** Terms: "REPORTS (at most 300 ..)": each of 300, of 12 PORTS and 25 WATCHES, counts for its own. */
+    private static void eachOf300IsKept() {
+        for (int half = 0; half < 2; half++) {
+            StormFlags s = new StormFlags();
+            for (int port = 0; port < 12; port++) {
+                s.port(port, 0, 0, port);
+            }
+            s.hours(192);
+            for (int i = 0; i < 300; i++) {
+                Check.due("its number", s.report(i % 12, i / 12, 9000 + i, 0), i);
+            }
+            for (int i = 150 * half; i < 150 * half + 150; i++) {
+                Check.due("port " + i % 12 + ", watch " + i / 12, s.counts(i % 12, i / 12, 192 + i % 12), i);
+            }
+        }
+    }
+
     /** The end of the terms: "IndexOutOfBoundsException: there is no such PORT"; promise 5. */
     private static void aReportIsOfAPort() {
         Check.dueIndex("report of port", Offices::busy, 3, (s, port) -> s.report(port, 1, 9500, 5));

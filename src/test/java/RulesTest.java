@@ -163,6 +163,26 @@ public final class RulesTest {
         Check.due("warnings of coast 3", s.count(4), 3);
     }
 
+    /** The rules section: "A NUMBER: 1 to 5 digits": all five count, the first as well as the last. */
+    private static void everyDigitOfANumberCounts() {
+        for (int coast = 0; coast <= 3; coast++) {
+            for (int more : new int[] {4, 8, 10, 16, 32, 100, 128, 256, 1000, 10000, 32768, 65536, 90000}) {
+                StormFlags s = new StormFlags();
+                s.port(0, 0, coast, 0);
+                Offices.warn(s, "cone coast=" + (coast + more));
+                Check.due("coast " + coast + " by " + (coast + more), s.count(4), 0);
+            }
+        }
+        for (int number : new int[] {9501, 10000, 16384, 32768, 40000, 65535, 65536, 70000, 90000, 99999}) {
+            StormFlags s = Offices.withPort(0);
+            s.hours(8);
+            s.report(0, 1, 9500, 12);
+            Offices.warn(s, "drum wind>" + number + "; cone low<" + number);
+            Check.due("by " + number, s.count(4), 1);
+            Check.dueWarning(s, 0, 10, 0, 0, 1);
+        }
+    }
+
     /** Of a field of 9500: low< this is the least that warns. */
     private static void dueHighestLow(String... numbers) {
         for (String number : numbers) {
