@@ -14,6 +14,7 @@ import java.util.regex.Pattern;
 /** What can be seen of ../shared/LANGUAGE.md in the class and in its file, from the project's own directory. */
 public final class LanguageTest {
     private static final Path FILE = Path.of("src/main/java/StormFlags.java");
+    // What the class uses so far; rule 4 allows more, which may be added here when it is needed.
     private static final Set<String> IMPORTS = Set.of("java.util.ArrayList", "java.util.NoSuchElementException");
     private static final Set<String> LIBRARY = Set.of("Math.max");
     private static final Set<String> ON_OBJECTS = Set.of("add", "get", "size", "length", "charAt");
